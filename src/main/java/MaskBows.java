@@ -1236,8 +1236,7 @@ public final class MaskBows {
 
         private boolean areBoundIn(int night, int one, int other) {
             for (int deed = 0; deed < carnival.deeds.size(); deed++) {
-                boolean between = isBetween(night, deed, one, other) || isBetween(night, deed, other, one);
-                if (between && binds(deed)) {
+                if (binds(deed) && (isBetween(night, deed, one, other) || isBetween(night, deed, other, one))) {
                     return true;
                 }
             }

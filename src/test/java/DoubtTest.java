@@ -52,6 +52,7 @@ public final class DoubtTest {
         x.let(1, true);
         Due.is("28: none holds", 0, x.witnesses());
         eitherOfTwo();
+        oneDoubt();
     }
 
     private static void eitherOfTwo() {
@@ -67,6 +68,16 @@ public final class DoubtTest {
         Due.is("28: what is believed is known", 0, x.witnesses());
         x.deed(0, 2, 0, 1, 0);
         Due.is("28: either would do: of several the least", 2, x.witnesses());
+    }
+
+    private static void oneDoubt() {
+        MaskBows x = new MaskBows();
+        x.bow(1, 2, 3, 10);
+        x.bow(2, 0, 1, 5);
+        x.deed(0, 2, 3, 0, 0);
+        Due.is("28: its doer is sure", 0, x.witnesses());
+        x.deed(0, 2, 0, 3, 0);
+        Due.is("28: the only doubt", 2, x.witnesses());
     }
 
     private static void unsure() {

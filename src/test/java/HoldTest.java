@@ -60,6 +60,17 @@ public final class HoldTest {
         }
         Due.is("9: at most", 64, x.nights());
         Due.is("10: at most", 1000000, x.all());
+        for (int i = 6; i < 20; i++) {
+            x.bow(i, i % 2, 2 + i % 2, 10);
+        }
+        // Fourteen seen bows, seven of masks 0 and 2, seven of masks 1 and 3: an odd count of each.
+        // One of the doubted is of five tenths: masks 0 and 1 are changed by half.
+        Due.is("14: with twenty bows", 500000, x.odds(2, 0, 99));
+        Due.is("14: and the other", 500000, x.odds(2, 1, 99));
+        Due.is("14: no other", 0, x.odds(2, 2, 99));
+        Due.is("14: what was mask 2's", 1000000, x.odds(0, 2, 99));
+        Due.is("14: a step earlier", 1000000, x.odds(3, 3, 18));
+        Due.is("14: and then", 1000000, x.odds(1, 3, 19));
     }
 
     private static void likeliest() {

@@ -30,9 +30,10 @@ public final class SheetTest {
         Due.is("37: n 0", 0, x.sheet(0, 8, 0));
         Due.is("37: empty, not missing", Due.BEYOND, x.write(0, 0, 0));
         x.sheet(3, 16, 2);
+        x.write(3, 0, 6);
         x.write(3, 1, 7);
         Due.is("37: again", 3, x.sheet(3, 16, 3));
-        Due.is("37: all are 0", 0, x.write(3, 1, 0));
+        dueNumbers("37: all are 0", x, 3, 0, 0, 0);
         Due.is("37: SIZE was counted", 8, x.status(6));
     }
 
@@ -91,6 +92,10 @@ public final class SheetTest {
         dueNumbers("39: as they all were", x, 0, 3, 4, 5, 6, 5, 6);
         x = counted();
         Due.is("39: n 0 at both ends", 0, x.copy(0, 6, 1, 4, 0));
+        x.sheet(1, 8, 6);
+        Due.is("39: all of it", 6, x.copy(0, 0, 1, 0, 6));
+        dueNumbers("39: all of it", x, 1, 1, 2, 3, 4, 5, 6);
+        x.sheet(1, 8, 4);
         int[][] beyond = {
             {-1, 0, 0, 0, 0}, {4, 0, 3, 0, 0}, {0, 0, -1, 0, 0}, {3, 0, 4, 0, 0},
             {0, 7, 1, 0, 0}, {0, 0, 1, 5, 0}, {0, 3, 1, 0, 4}, {0, 0, 1, 1, 4}, {0, 0, 1, 0, 5}, {1, 0, 0, 0, 5},
@@ -127,6 +132,12 @@ public final class SheetTest {
         Due.is("40: two nights", 2, x.nights());
         x.write(0, 0, 1L << 32);
         Due.is("40: a long beyond is none", 1, x.lays(0));
+        x.write(0, 0, 10);
+        x.write(0, 1, 10);
+        x.write(0, 2, 0);
+        Due.is("40: both ends may be", 3, x.lays(0));
+        Due.is("40: tenths of bow 1", 10, x.bowOf(1, 3));
+        Due.is("40: tenths of bow 2", 0, x.bowOf(2, 3));
         x.sheet(0, 16, 0);
         Due.is("40: an empty sheet", 0, x.lays(0));
         inOrder();

@@ -93,7 +93,7 @@ public final class TextTest {
     /** Each with a bar ahead of the first byte of the token at fault, or at the end. */
     private static void faults() {
         String[] texts = {
-            "|", "   |", "|;", "|bo", "|bowx 1 0 1", "|Bow 1 0 1", "|1", "|@", "|\n",
+            "|", "   |", "|;", "|bo", "|bowx 1 0 1", "|bowz 1 0 1", "|abow 1 0 1", "bow|_ 1 0 1", "bow 9|: 0 1", "bow 9|/ 0 1", "|Bow 1 0 1", "|1", "|@", "|\n",
             "bow|", "bow  |", "bow |x", "bow |;", "bow |100 0 1", "bow |1000 0 1", "bow |4294967297 0 1",
             "bow 1|", "bow 1 |4 0", "bow 1 |to", "bow 1 0|", "bow 1 0 |0", "bow 1 0 |00", "bow 1 0 |4", "bow 1 0 |-1",
             "bow 1 0 1 |2", "bow 1 0 1 |dou", "bow 1 0 1 |bow", "bow 1 0 1 doubt|", "bow 1 0 1 doubt |10",
