@@ -818,6 +818,7 @@ public final class MaskBows {
         private final int[] metEver = new int[MOST_PEOPLE];
         private final int[] bowedTo = new int[MOST_PEOPLE];
         private boolean isStale = true;
+        private int bowCount = 0;
         private int doubtCount = 0;
         private int seenBows = 0;
         private int likeliest = NO;
@@ -836,6 +837,7 @@ public final class MaskBows {
                 return;
             }
             isStale = false;
+            bowCount = Math.min(carnival.bows.size(), MOST_BOWS);
             orderBows();
             countSteps();
             findDoubts();
@@ -989,7 +991,7 @@ public final class MaskBows {
         }
 
         private void orderBows() {
-            for (int bow = 0; bow < carnival.bows.size(); bow++) {
+            for (int bow = 0; bow < bowCount; bow++) {
                 int at = bow;
                 while (at > 0 && hourOf(order[at - 1]) > hourOf(bow)) {
                     order[at] = order[at - 1];
@@ -1002,7 +1004,7 @@ public final class MaskBows {
         private void countSteps() {
             int step = 0;
             for (int hour = 0; hour < HOURS; hour++) {
-                while (step < carnival.bows.size() && hourOf(order[step]) <= hour) {
+                while (step < bowCount && hourOf(order[step]) <= hour) {
                     step++;
                 }
                 stepsAt[hour] = step;
@@ -1012,7 +1014,7 @@ public final class MaskBows {
         private void findDoubts() {
             doubtCount = 0;
             seenBows = 0;
-            for (int bow = 0; bow < carnival.bows.size(); bow++) {
+            for (int bow = 0; bow < bowCount; bow++) {
                 if (!carnival.isDoubted(bow)) {
                     seenBows |= 1 << bow;
                 } else if (doubtCount < MOST_DOUBTED) {
@@ -1048,7 +1050,7 @@ public final class MaskBows {
             for (int person = 0; person < MOST_PEOPLE; person++) {
                 metEver[person] |= bowedTo[person];
             }
-            if (likeliest == NO || weight > weights[likeliest]) {
+            if (weight > weight(likeliest)) {
                 likeliest = night;
             }
         }
@@ -1062,7 +1064,7 @@ public final class MaskBows {
             int row = ALL_AT_HOME;
             boolean twice = false;
             rows[night * STEPS] = row;
-            for (int step = 0; step < carnival.bows.size(); step++) {
+            for (int step = 0; step < bowCount; step++) {
                 int bow = order[step];
                 if ((made >> bow & 1) == 1) {
                     int one = carnival.bows.cell(bow, BOW_ONE);
